@@ -16,6 +16,7 @@ public final class PromiseTest {
         plain();
         list();
         listIsCut();
+        rowsOfAFullList();
         world();
         make();
         makeIsFull();
@@ -23,6 +24,7 @@ public final class PromiseTest {
         many();
         twin();
         butForAndLook();
+        apartAtThePointAlone();
         never();
         deny();
         denyBeyondTheList();
@@ -31,11 +33,13 @@ public final class PromiseTest {
         worth();
         best();
         next();
+        nextTurnedAndSelf();
         makeNext();
         needed();
         least();
         even();
         keepAndSame();
+        slotsBesideSixLaws();
         shown();
         shownByRounds();
         groupsAndFirst();
@@ -315,6 +319,26 @@ public final class PromiseTest {
         due(12, "world(40, 1)", s.world(40, 1), UNKNOWN);
     }
 
+    private static void rowsOfAFullList() {
+        SmallWorlds s = new SmallWorlds();
+        s.make(0, 0, 1);
+        s.make(1, 0, 0);
+        s.make(0, 0, 0);
+        s.make(5, 0, 0);
+        int same = 1 + 10 * 2 + 29 * 3;
+        due(15, "many(1)", s.many(1), 302 - same);
+        due(16, "twin(3)", s.twin(3), 0);
+        due(17, "butFor(2, 0)", s.butFor(2, 0), 302 - same);
+        due(18, "look(2, 1, same - 1), the last pair", s.look(2, 1, same - 1), 301);
+        due(18, "look(2, 1, same)", s.look(2, 1, same), NONE);
+        due(19, "never(0, 1)", s.never(0, 1), 1);
+        due(20, "deny(0, 3)", s.deny(0, 3), NONE);
+        due(23, "worth(0, 0)", s.worth(0, 0), same);
+        due(23, "worth(0, 1)", s.worth(0, 1), 2);
+        due(24, "best()", s.best(), 0);
+        due(25, "next(), ALL: the point alone", s.next(), 30000);
+    }
+
     private static void world() {
         SmallWorlds s = leftOnes();
         due(12, "world(0, 0)", s.world(0, 0), 1);
@@ -451,6 +475,25 @@ public final class PromiseTest {
         due(18, "look(-1, 0, -1)", s.look(-1, 0, -1), UNKNOWN);
     }
 
+    /** x is each z: so for the one pair of the first world, and for no other one. */
+    private static void apartAtThePointAlone() {
+        SmallWorlds s = lower();
+        s.make(0, 0, 2);
+        s.make(0, 0, 0);
+        s.make(1, 1, 0);
+        due(18, "look(0, 2, 0), as the first call", s.look(0, 2, 0), 0);
+        due(17, "butFor(0, 2)", s.butFor(0, 2), 1);
+        due(16, "twin(2)", s.twin(2), NONE);
+        due(19, "never(0, 1)", s.never(0, 1), 0);
+        due(19, "never(0, 2)", s.never(0, 2), 1);
+        due(20, "deny(0, 2)", s.deny(0, 2), 100000);
+        s.make(1, 0, 0);
+        due(23, "worth(0, 1), within 1 and 2 within it", s.worth(0, 1), 2);
+        due(18, "look(3, 2, 0), after a make", s.look(3, 2, 0), 1);
+        s.law(0, 1);
+        due(18, "look(1, 2, 1), after a law", s.look(1, 2, 1), NONE);
+    }
+
     private static void never() {
         SmallWorlds s = below();
         s.make(2, 0, 1);
@@ -504,6 +547,16 @@ public final class PromiseTest {
         }
         s.unlaw();
         due(20, "deny(0, 1) without it", s.deny(0, 1), denied);
+        SmallWorlds t = new SmallWorlds();
+        cube = t.put(t.put(0, 0), 0);
+        fifth = t.put(t.put(cube, 0), 0);
+        t.make(0, fifth, cube);
+        t.make(1, 0, 0);
+        t.make(1, 1, 0);
+        t.make(2, 0, 1);
+        due(20, "deny(1, 3), of notions made of notions", t.deny(1, 3), denied);
+        due(20, "deny(1, 2), as it is so by the one", t.deny(1, 2), denied);
+        due(20, "deny(2, 0)", t.deny(2, 0), NONE);
     }
 
     private static void weigh() {
@@ -613,6 +666,26 @@ public final class PromiseTest {
         due(25, "next(), all that is left is asleep", s.next(), NONE);
         s.law(0, 1);
         due(25, "next(), x = y", s.next(), NONE);
+    }
+
+    /**
+     * (zy)z = y: a point, two things (0 with itself alone is itself), and twice three things
+     * (each with itself is itself; none is). The notion xx is y: 9 of 23 pairs.
+     */
+    private static void nextTurnedAndSelf() {
+        SmallWorlds s = new SmallWorlds();
+        s.law(s.put(s.put(2, 1), 2), 1);
+        s.make(0, s.put(0, 0), 1);
+        due(25, "list(1)", s.list(1), 23);
+        due(25, "next(), SELF: 12 of 23", s.next(), 60000);
+        due(26, "makeNext(), SELF", s.makeNext(), 1);
+        due(26, "many(1)", s.many(1), 12);
+        due(25, "next(), NOT of it", s.next(), 10100);
+        due(26, "makeNext(), NOT", s.makeNext(), 2);
+        due(25, "next(), TURNED", s.next(), 50100);
+        due(26, "makeNext(), TURNED", s.makeNext(), 3);
+        due(14, "yes(3, 1, 1, 0)", s.yes(3, 1, 1, 0), 1);
+        due(14, "yes(3, 1, 0, 1)", s.yes(3, 1, 0, 1), 0);
     }
 
     private static void makeNext() {
@@ -731,6 +804,23 @@ public final class PromiseTest {
         due(31, "same(0), no laws", s.same(0), 1);
     }
 
+    private static void slotsBesideSixLaws() {
+        SmallWorlds s = lower();
+        due(30, "keep(0)", s.keep(0), 3);
+        s.law(0, 0);
+        s.law(1, 1);
+        due(30, "keep(1), five laws", s.keep(1), 5);
+        s.law(0, 1);
+        due(31, "same(0), six laws", s.same(0), 0);
+        due(31, "same(1), six laws", s.same(1), 0);
+        due(28, "least(), six laws", s.least(), 32);
+        due(11, "list(0), six laws", s.list(0), 1);
+        s.unlaw();
+        due(31, "same(0)", s.same(0), 1);
+        due(31, "same(1)", s.same(1), 1);
+        due(11, "list(0)", s.list(0), 4);
+    }
+
     private static void shown() {
         SmallWorlds s = new SmallWorlds();
         int xy = s.put(0, 1);
@@ -789,6 +879,18 @@ public final class PromiseTest {
     }
 
     private static void groupsAndFirst() {
+        SmallWorlds u = new SmallWorlds();
+        u.law(u.put(0, 1), u.put(1, 0));
+        due(34, "first(4), xy = yx, as the first call", u.first(4), 3);
+        SmallWorlds t = new SmallWorlds();
+        t.law(0, t.put(0, 0));
+        due(34, "first(3), x = xx", t.first(3), 0);
+        due(32, "shown(3, 0), x = xx", t.shown(3, 0), 1);
+        t.unlaw();
+        t.law(3, 3);
+        t.law(1, 1);
+        due(33, "groups(), xx = xx, y = y", t.groups(), 4);
+        due(35, "count(4), xx = xx, y = y", t.count(4), 0);
         SmallWorlds s = new SmallWorlds();
         due(33, "groups()", s.groups(), 3);
         due(34, "first(2)", s.first(2), 2);
