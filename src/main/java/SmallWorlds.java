@@ -491,13 +491,16 @@ public final class SmallWorlds {
         private final int[] value = new int[Terms.MOST];
         private int size = 1;
 
-        /** The size is 1 to 3. */
-        void load(int size, int number) {
-            this.size = size;
+        /** A size that is none leaves the table as it is: nothing is divided by it. */
+        void load(int newSize, int number) {
+            if (!isSize(newSize)) {
+                return;
+            }
+            size = newSize;
             int rest = number;
-            for (int cell = size * size - 1; cell >= 0; cell--) {
-                cells[cell] = rest % size;
-                rest /= size;
+            for (int cell = newSize * newSize - 1; cell >= 0; cell--) {
+                cells[cell] = rest % newSize;
+                rest /= newSize;
             }
         }
 
@@ -573,28 +576,24 @@ public final class SmallWorlds {
             return RENAMINGS[size] / itself;
         }
 
-        private boolean comeOutAlike(Terms terms, int a, int b) {
-            int needs = terms.needs[a] | terms.needs[b];
-            for (int term = Terms.LETTERS; term <= a || term <= b; term++) {
-                if ((needs >> term & 1) != 0) {
-                    value[term] = cells[value[terms.left[term]] * size + value[terms.right[term]]];
-                }
-            }
-            return value[a] == value[b];
-        }
-
         /** A letter that stands in neither term needs no more than one thing set in. */
         private int thingsFor(int letter, int needs) {
             return (needs >> letter & 1) != 0 ? size : 1;
         }
 
-        private boolean alikeForAllZ(Terms terms, int a, int b, int x, int y) {
-            int things = thingsFor(2, terms.needs[a] | terms.needs[b]);
+        /** Whether two terms come out as the same thing for x, y and the first things as z. */
+        private boolean alikeForZ(Terms terms, int a, int b, int x, int y, int things) {
+            int needs = terms.needs[a] | terms.needs[b];
             for (int z = 0; z < things; z++) {
                 value[0] = x;
                 value[1] = y;
                 value[2] = z;
-                if (!comeOutAlike(terms, a, b)) {
+                for (int term = Terms.LETTERS; term <= a || term <= b; term++) {
+                    if ((needs >> term & 1) != 0) {
+                        value[term] = cells[value[terms.left[term]] * size + value[terms.right[term]]];
+                    }
+                }
+                if (value[a] != value[b]) {
                     return false;
                 }
             }
@@ -608,9 +607,10 @@ public final class SmallWorlds {
             int needs = terms.needs[a] | terms.needs[b];
             int xs = thingsFor(0, needs);
             int ys = thingsFor(1, needs);
+            int zs = thingsFor(2, needs);
             for (int x = 0; x < xs; x++) {
                 for (int y = 0; y < ys; y++) {
-                    if (!alikeForAllZ(terms, a, b, x, y)) {
+                    if (!alikeForZ(terms, a, b, x, y, zs)) {
                         return false;
                     }
                 }
@@ -620,10 +620,11 @@ public final class SmallWorlds {
 
         /** The pairs for which two terms are the same for all z, as bits. */
         int pairsAlike(Terms terms, int a, int b) {
+            int zs = thingsFor(2, terms.needs[a] | terms.needs[b]);
             int pairs = 0;
             for (int x = 0; x < size; x++) {
                 for (int y = 0; y < size; y++) {
-                    if (alikeForAllZ(terms, a, b, x, y)) {
+                    if (alikeForZ(terms, a, b, x, y, zs)) {
                         pairs |= 1 << (x * size + y);
                     }
                 }
@@ -1125,24 +1126,19 @@ public final class SmallWorlds {
             nextRare = -1;
             for (int way = Notions.NOT; way <= Notions.SELF; way++) {
                 for (int a = 0; a < notions.size; a++) {
-                    if (notions.awake[a]) {
-                        tryWay(way, a);
+                    for (int b = 0; b < notions.size; b++) {
+                        if (mightBeMade(way, a, b)) {
+                            tryNext(way, a, b);
+                        }
                     }
                 }
             }
             return nextCode;
         }
 
-        private void tryWay(int way, int a) {
-            if (way != Notions.BOTH) {
-                tryNext(way, a, 0);
-                return;
-            }
-            for (int b = a + 1; b < notions.size; b++) {
-                if (notions.awake[b]) {
-                    tryNext(way, a, b);
-                }
-            }
+        /** Of notions that are awake; ways of one notion are tried once, with 0 as the second. */
+        private boolean mightBeMade(int way, int a, int b) {
+            return notions.awake[a] && (way == Notions.BOTH ? b > a && notions.awake[b] : b == 0);
         }
 
         private void tryNext(int way, int a, int b) {

@@ -1,3 +1,4 @@
+import java.lang.reflect.Method;
 import java.util.ArrayList;
 import java.util.Arrays;
 import java.util.BitSet;
@@ -16,7 +17,7 @@ public final class PlainModelTest {
     private static final int CALLS = 120;
     private static int wrong = 0;
 
-    public static void main(String[] args) {
+    public static void main(String[] args) throws ReflectiveOperationException {
         for (int run = 0; run < RUNS && wrong < 20; run++) {
             oneRun(run);
         }
@@ -26,7 +27,7 @@ public final class PlainModelTest {
         }
     }
 
-    private static void oneRun(int run) {
+    private static void oneRun(int run) throws ReflectiveOperationException {
         Random random = new Random(1000 + run);
         SmallWorlds object = new SmallWorlds();
         Model model = new Model();
@@ -162,82 +163,25 @@ public final class PlainModelTest {
             return name + "(" + a + ", " + b + ", " + c + ", " + d + ", " + flag + ")";
         }
 
-        int on(SmallWorlds x) {
-            switch (name) {
-                case "put": return x.put(a, b);
-                case "part": return x.part(a, flag);
-                case "law": return x.law(a, b);
-                case "unlaw": return x.unlaw();
-                case "worlds": return x.worlds(a, flag);
-                case "number": return x.number(a, b);
-                case "keeps": return x.keeps(a, b);
-                case "breaks": return x.breaks(a, b);
-                case "plain": return x.plain(a, b);
-                case "list": return x.list(a);
-                case "world": return x.world(a, b);
-                case "make": return x.make(a, b, c);
-                case "yes": return x.yes(a, b, c, d);
-                case "many": return x.many(a);
-                case "twin": return x.twin(a);
-                case "butFor": return x.butFor(a, b);
-                case "look": return x.look(a, b, c);
-                case "never": return x.never(a, b);
-                case "deny": return x.deny(a, b);
-                case "weigh": return x.weigh(a, b);
-                case "wake": return x.wake(a, flag);
-                case "worth": return x.worth(a, b);
-                case "best": return x.best();
-                case "next": return x.next();
-                case "makeNext": return x.makeNext();
-                case "needed": return x.needed(a);
-                case "least": return x.least();
-                case "even": return x.even();
-                case "keep": return x.keep(a);
-                case "same": return x.same(a);
-                case "shown": return x.shown(a, b);
-                case "groups": return x.groups();
-                case "first": return x.first(a);
-                default: return x.count(a);
+        /** On an object or on the model: their calls have the same names and arguments. */
+        int on(Object x) throws ReflectiveOperationException {
+            for (Method m : x.getClass().getDeclaredMethods()) {
+                if (m.getName().equals(name)) {
+                    return (Integer) m.invoke(x, argumentsOf(m));
+                }
             }
+            throw new NoSuchMethodException(name);
         }
 
-        int on(Model x) {
-            switch (name) {
-                case "put": return x.put(a, b);
-                case "part": return x.part(a, flag);
-                case "law": return x.law(a, b);
-                case "unlaw": return x.unlaw();
-                case "worlds": return x.worlds(a, flag);
-                case "number": return x.number(a, b);
-                case "keeps": return x.keeps(a, b);
-                case "breaks": return x.breaks(a, b);
-                case "plain": return x.plain(a, b);
-                case "list": return x.list(a);
-                case "world": return x.world(a, b);
-                case "make": return x.make(a, b, c);
-                case "yes": return x.yes(a, b, c, d);
-                case "many": return x.many(a);
-                case "twin": return x.twin(a);
-                case "butFor": return x.butFor(a, b);
-                case "look": return x.look(a, b, c);
-                case "never": return x.never(a, b);
-                case "deny": return x.deny(a, b);
-                case "weigh": return x.weigh(a, b);
-                case "wake": return x.wake(a, flag);
-                case "worth": return x.worth(a, b);
-                case "best": return x.best();
-                case "next": return x.next();
-                case "makeNext": return x.makeNext();
-                case "needed": return x.needed(a);
-                case "least": return x.least();
-                case "even": return x.even();
-                case "keep": return x.keep(a);
-                case "same": return x.same(a);
-                case "shown": return x.shown(a, b);
-                case "groups": return x.groups();
-                case "first": return x.first(a);
-                default: return x.count(a);
+        private Object[] argumentsOf(Method m) {
+            int[] numbers = {a, b, c, d};
+            Class<?>[] types = m.getParameterTypes();
+            Object[] arguments = new Object[types.length];
+            int used = 0;
+            for (int i = 0; i < types.length; i++) {
+                arguments[i] = types[i] == boolean.class ? (Object) flag : (Object) numbers[used++];
             }
+            return arguments;
         }
     }
 
