@@ -54,6 +54,7 @@ public final class NotionsBoundaryTest {
         Due.test(20, "the last WORLD of all", NotionsBoundaryTest::denyByTheLastOfAll);
         Due.test(20, "on THE LIST: its last one", NotionsBoundaryTest::denyByTheLastOfTheList);
         Due.test(20, "beyond it: the next one", NotionsBoundaryTest::denyByTheFirstBeyond);
+        Due.test(20, "beyond it: of NOTIONS made of NOTIONS", NotionsBoundaryTest::denyBeyondByMadeOnes);
         Due.test(20, "LISTED: no world that breaks a law", NotionsBoundaryTest::denyByListedOnes);
         Due.test(20, "UNKNOWN", NotionsBoundaryTest::denyUnknown);
         Due.end();
@@ -636,6 +637,23 @@ public final class NotionsBoundaryTest {
         Due.is("butFor(0, 1)", s.butFor(0, 1), 0);
         Due.is("deny(0, 1)", s.deny(0, 1), 300000 + number);
         Due.is("butFor(0, 1), still", s.butFor(0, 1), 0);
+    }
+
+    /** As above, by what is not not so, and by both. */
+    private static void denyBeyondByMadeOnes() {
+        SmallWorlds s = Due.page("xx = x");
+        int once = Due.term(s, "yx");
+        int twice = Due.term(s, "(yx)x");
+        s.make(0, twice, 1);
+        s.make(0, once, 1);
+        s.make(1, 0, 0);
+        s.make(1, 2, 0);
+        s.make(2, 0, 1);
+        s.make(5, 4, 0);
+        s.make(5, 5, 0);
+        Due.is("deny(3, 6), as the first call that tells", s.deny(3, 6), 300000 + Due.number("000 210 102"));
+        Due.is("deny(6, 3)", s.deny(6, 3), Due.NONE);
+        Due.is("deny(3, 0)", s.deny(3, 0), Due.NONE);
     }
 
     /** xx is x: denied first by 00 00, that breaks xx = x, then by none. */

@@ -26,6 +26,7 @@ public final class PagesBoundaryTest {
         Due.test(30, "how many LAWS: none to six", PagesBoundaryTest::keepNoneToSix);
         Due.test(30, "what a SLOT had is gone", PagesBoundaryTest::keepAgain);
         Due.test(30, "SLOTS are apart", PagesBoundaryTest::slotsApart);
+        Due.test(30, "SLOTS beside six LAWS", PagesBoundaryTest::slotsBesideSixLaws);
         Due.test(30, "the PAGE stays as it came", PagesBoundaryTest::keptPageStays);
         Due.test(31, "UNKNOWN", PagesBoundaryTest::sameUnknown);
         Due.test(31, "no LAWS at first", PagesBoundaryTest::sameAtFirst);
@@ -225,6 +226,25 @@ public final class PagesBoundaryTest {
         Due.law(s, "xy = x");
         Due.is("same(0), xy = x", s.same(0), 1);
         Due.is("same(1), xy = x", s.same(1), 0);
+    }
+
+    /** The sixth law comes and goes beside what both slots have. */
+    private static void slotsBesideSixLaws() {
+        SmallWorlds s = Due.page("xx = x", "xy = yx", "x = x", "y = y", "z = z");
+        s.keep(0);
+        s.keep(1);
+        s.law(0, 1);
+        Due.is("same(0), six laws", s.same(0), 0);
+        Due.is("same(1), six laws", s.same(1), 0);
+        Due.is("worlds(2, true), six laws", s.worlds(2, true), 0);
+        s.unlaw();
+        Due.is("same(0), five laws", s.same(0), 1);
+        Due.is("same(1), five laws", s.same(1), 1);
+        s.law(0, 1);
+        Due.is("keep(1), six laws", s.keep(1), 6);
+        Due.is("same(1), kept", s.same(1), 1);
+        Due.is("same(0), kept by the other one", s.same(0), 0);
+        Due.is("least()", s.least(), 32);
     }
 
     private static void keptPageStays() {

@@ -24,6 +24,7 @@ public final class WorthBoundaryTest {
         Due.test(23, "SERVES: within or within it, once", WorthBoundaryTest::servesOnce);
         Due.test(23, "SERVES: that are awake", WorthBoundaryTest::servesThoseAwake);
         Due.test(23, "SERVES: BUT FOR 0, not BUT FOR 1", WorthBoundaryTest::servesButForOne);
+        Due.test(23, "SERVES: BUT FOR the first PAIR", WorthBoundaryTest::servesButForThePoint);
         Due.test(23, "WORTH: less than nothing", WorthBoundaryTest::worthBelowNought);
         Due.test(23, "WORTH: as low as can be", WorthBoundaryTest::worthLowest);
         Due.test(23, "WORTH: as high as can be", WorthBoundaryTest::worthHighest);
@@ -33,6 +34,12 @@ public final class WorthBoundaryTest {
         Due.test(24, "of like ones the least", WorthBoundaryTest::bestTheLeast);
         Due.test(24, "all below nought", WorthBoundaryTest::bestBelowNought);
         Due.test(24, "the last of twelve", WorthBoundaryTest::bestTheLast);
+        Due.test(25, "by WAYS 1 to 6: 1", WorthBoundaryTest::nextByNot);
+        Due.test(25, "by WAYS 1 to 6: 2", WorthBoundaryTest::nextByBoth);
+        Due.test(25, "by WAYS 1 to 6: 3", WorthBoundaryTest::nextByAll);
+        Due.test(25, "by WAYS 1 to 6: 4", WorthBoundaryTest::nextBySome);
+        Due.test(25, "by WAYS 1 to 6: 5", WorthBoundaryTest::nextByTurned);
+        Due.test(25, "by WAYS 1 to 6: 6", WorthBoundaryTest::nextBySelf);
         Due.test(25, "NONE: there are none", WorthBoundaryTest::nextOfNone);
         Due.test(25, "NONE: all asleep", WorthBoundaryTest::nextAllAsleep);
         Due.test(25, "NONE: all rows are there", WorthBoundaryTest::nextNothingUnlike);
@@ -281,6 +288,18 @@ public final class WorthBoundaryTest {
         Due.is("worth(2, 1), with both", s.worth(2, 1), 2);
     }
 
+    /** x is z: so for the point alone, where what it is not is not so. */
+    private static void servesButForThePoint() {
+        SmallWorlds s = Due.page("xy = zz");
+        s.make(0, 0, 2);
+        s.make(1, 0, 0);
+        Due.is("worth(0, 1)", s.worth(0, 1), 0);
+        Due.is("worth(1, 1)", s.worth(1, 1), 0);
+        s.make(0, 0, 1);
+        Due.is("worth(0, 1), within x is y", s.worth(0, 1), 1);
+        Due.is("worth(1, 1), with x is y", s.worth(1, 1), 0);
+    }
+
     private static void worthBelowNought() {
         SmallWorlds s = nought();
         s.weigh(0, 0);
@@ -381,11 +400,73 @@ public final class WorthBoundaryTest {
             s.make(0, 0, 0);
         }
         s.make(0, 0, 4);
+        Due.is("best(), as the first call that tells", s.best(), 11);
         Due.is("worth(11, 3)", s.worth(11, 3), 100000 + 6 + 11 - 1);
-        Due.is("best()", s.best(), 11);
     }
 
     // ---- next
+
+    /** THE NEXT is told, made, and has this many pairs: just those of the notion made by hand. */
+    private static void nextIs(SmallWorlds s, int code, int pairs) {
+        Due.is("next()", s.next(), code);
+        int made = s.makeNext();
+        Due.is("makeNext()", made, s.count(2) - 1);
+        Due.is("many(made)", s.many(made), pairs);
+        int way = code / 10000;
+        int byHand = s.make(way, code / 100 % 100, code % 100);
+        Due.is("butFor(made, by hand)", s.butFor(made, byHand), 0);
+        Due.is("butFor(by hand, made)", s.butFor(byHand, made), 0);
+        Due.is("worth(made, 2)", s.worth(made, 2), s.worth(byHand, 2));
+    }
+
+    private static void nextByNot() {
+        nextIs(nought(), 10000, 8);
+    }
+
+    /** Neither is nought: 5 of 14. */
+    private static void nextByBoth() {
+        SmallWorlds s = nought();
+        s.make(1, 0, 0);
+        s.make(1, 1, 0);
+        nextIs(s, 20203, 5);
+    }
+
+    /** Each is nought: the point. What is rarer is there, or sleeps. */
+    private static void nextByAll() {
+        SmallWorlds s = nought();
+        s.make(1, 1, 0);
+        s.make(1, 0, 0);
+        s.wake(0, false);
+        s.wake(3, false);
+        nextIs(s, 30100, 1);
+    }
+
+    /** Some is not x: all but the point. x is y sleeps. */
+    private static void nextBySome() {
+        SmallWorlds s = Due.page("xy = zz");
+        s.make(0, 0, 1);
+        s.make(1, 0, 0);
+        s.wake(0, false);
+        nextIs(s, 40100, 13);
+    }
+
+    private static void nextByTurned() {
+        SmallWorlds s = Due.page("xy = zz");
+        s.make(0, 0, 4);
+        s.make(1, 0, 0);
+        nextIs(s, 50000, 6);
+    }
+
+    /**
+     * (zy)z = y: the point, two things (0 alone is its own square), and twice three things (each
+     * is its own square; none is). The square of x is y: 9 of 23 pairs; it is x: 12.
+     */
+    private static void nextBySelf() {
+        SmallWorlds s = Due.page("(zy)z = y");
+        s.make(0, Due.term(s, "xx"), 1);
+        Due.is("many(0)", s.many(0), 9);
+        nextIs(s, 60000, 12);
+    }
 
     private static void nextOfNone() {
         SmallWorlds s = new SmallWorlds();
@@ -576,7 +657,7 @@ public final class WorthBoundaryTest {
     private static void makeNextAwake() {
         SmallWorlds s = nought();
         Due.is("makeNext()", s.makeNext(), 2);
-        Due.is("butFor(2, 0), what is not so by 0", s.butFor(2, 0), 8);
+        Due.is("many(2), what is not so by 0", s.many(2), 8);
         Due.is("wake(2, true)", s.wake(2, true), 1);
         Due.is("count(3)", s.count(3), 3);
     }
