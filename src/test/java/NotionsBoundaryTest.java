@@ -30,6 +30,7 @@ public final class NotionsBoundaryTest {
         Due.test(15, "UNKNOWN", NotionsBoundaryTest::manyUnknown);
         Due.test(15, "PAIRS go with the laws", NotionsBoundaryTest::manyGoesWithTheLaws);
         Due.test(16, "of lesser number", NotionsBoundaryTest::twinOfLesserNumber);
+        Due.test(16, "NONE: of the first there is none of lesser number", NotionsBoundaryTest::twinOfTheFirst);
         Due.test(16, "the first NOTION", NotionsBoundaryTest::twinTheFirst);
         Due.test(16, "just the same PAIRS: but for the first one", NotionsBoundaryTest::twinButForTheFirst);
         Due.test(16, "just the same PAIRS: but for the last one", NotionsBoundaryTest::twinButForTheLast);
@@ -404,6 +405,16 @@ public final class NotionsBoundaryTest {
         Due.is("twin(4)", s.twin(4), 0);
         Due.is("twin(0), the one that agrees is greater", s.twin(0), Due.NONE);
         Due.is("twin(1), not itself", s.twin(1), Due.NONE);
+    }
+
+    /** Things with a lower one of each two: x is yz for all z, if both are the lowest, 0 with 0. */
+    private static void twinOfTheFirst() {
+        SmallWorlds s = Due.page("xx = x", "xy = yx", "(xy)z = x(yz)");
+        s.make(0, 0, Due.term(s, "yz"));
+        Due.is("twin(0), alone", s.twin(0), Due.NONE);
+        s.make(0, 0, 1);
+        Due.is("twin(0), with another one", s.twin(0), Due.NONE);
+        Due.is("many(0), one a world", s.many(0), s.list(0));
     }
 
     private static void twinTheFirst() {

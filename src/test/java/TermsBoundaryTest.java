@@ -37,6 +37,7 @@ public final class TermsBoundaryTest {
         Due.test(8, "OUTSIDE: number", TermsBoundaryTest::keepsOutsideNumber);
         Due.test(8, "no laws: each one", TermsBoundaryTest::keepsNoLaws);
         Due.test(8, "for all THINGS as x, y, z", TermsBoundaryTest::keepsForAllThings);
+        Due.test(8, "for all THINGS, whichever number the term has", TermsBoundaryTest::keepsByLaterTerms);
         Due.test(8, "all LAWS, the first and the sixth", TermsBoundaryTest::keepsAllLaws);
         Due.test(8, "the first cell weighs most", TermsBoundaryTest::firstCellWeighsMost);
         Due.test(9, "OUTSIDE", TermsBoundaryTest::breaksOutside);
@@ -384,6 +385,23 @@ public final class TermsBoundaryTest {
         }
     }
 
+    /** As above, with other terms told ahead of the law's: its own are not the first ones. */
+    private static void keepsByLaterTerms() {
+        String[] ahead = {"xx", "yy", "zz"};
+        for (int letter = 0; letter < 3; letter++) {
+            SmallWorlds s = new SmallWorlds();
+            for (int other = 1; other <= 3; other++) {
+                Due.term(s, ahead[(letter + other) % 3]);
+            }
+            Due.law(s, ahead[letter] + " = " + "xyz".charAt(letter));
+            Due.is("keeps(3, 000 010 002)", s.keeps(3, Due.number("000 010 002")), 1);
+            Due.is("keeps(3, 000 010 000)", s.keeps(3, Due.number("000 010 000")), 0);
+            Due.is("keeps(3, 000 000 002)", s.keeps(3, Due.number("000 000 002")), 0);
+            Due.is("worlds(3, true)", s.worlds(3, true), 138);
+            Due.is("worlds(3, false)", s.worlds(3, false), 729);
+        }
+    }
+
     private static void keepsAllLaws() {
         SmallWorlds s = Due.page("xy = x", "x = x", "y = y", "z = z", "xx = xx");
         Due.is("keeps(2, 0011), five laws", s.keeps(2, Due.number("00 11")), 1);
@@ -572,11 +590,14 @@ public final class TermsBoundaryTest {
     private static void listGoesWithTheLaws() {
         SmallWorlds s = new SmallWorlds();
         Due.is("list(0), no laws", s.list(0), 40);
+        Due.is("list(1), no laws", s.list(1), 302);
         s.law(0, 1);
         Due.is("list(0), x = y", s.list(0), 1);
+        Due.is("list(1), x = y", s.list(1), 1);
         Due.is("world(1, 0), x = y", s.world(1, 0), Due.UNKNOWN);
         s.unlaw();
         Due.is("list(0), no laws again", s.list(0), 40);
+        Due.is("list(1), no laws again", s.list(1), 302);
         Due.is("world(39, 0), no laws again", s.world(39, 0), 3);
     }
 
